@@ -590,7 +590,7 @@ public final class GridStarts {
         /** The entry at the end of THE WAY, or NOWHERE. */
         int plan(int code, int machines, int buses) {
             // What can't be reached would have all codes looked through: the smaller search tells it sooner.
-            if (!canReach(code, machines, buses)) {
+            if (explore(code, Code.SETTLED_MASK, ALL_STEPS, machines, buses) == NOWHERE) {
                 return NOWHERE;
             }
             return explore(code, Code.ALL_MASK, ALL_STEPS, machines, buses);

@@ -18,6 +18,8 @@ public final class GoalsTest {
         neededIsWhatIsNotThereYet();
         everByItself();
         everByWaiting();
+        everOfLaterOnes();
+        everByAllTogether();
         greatestSearch();
         Check.end();
     }
@@ -250,6 +252,38 @@ public final class GoalsTest {
         Check.due("15: one bus", x.ever(1), 1);
         x.tick(1);
         Check.due("15: what ramps now", x.ever(0), 0b011);
+    }
+
+    private static void everOfLaterOnes() {
+        GridStarts x = new GridStarts();
+        Check.due("15: no machine", x.ever(0), 0);
+        Check.due("15: no bus", x.ever(1), 0);
+        x.machine(1, 1, 40, 0);
+        Check.due("15: a machine that nothing cranks", x.ever(0), 0);
+        Check.due("15: and so no bus", x.ever(1), 0);
+        x.machine(5, 0, 9, 1);
+        x.line(4, 5, 9);
+        x.line(3, 4, 1);
+        Check.due("15: the second alone", x.ever(0), 0b10);
+        Check.due("15: its bus and the next", x.ever(1), 0b110000);
+    }
+
+    /** The last line can be closed only when all machines run: the greatest codes are looked at, and at every call. */
+    private static void everByAllTogether() {
+        GridStarts x = new GridStarts();
+        for (int line = 0; line < 5; line++) {
+            x.line(0, 1, 9);
+        }
+        x.line(0, 5, 9);
+        for (int machine = 0; machine < 3; machine++) {
+            x.machine(0, 0, 3, 3);
+        }
+        for (int again = 0; again < 2; again++) {
+            Check.due("15: by all together", x.ever(1), 0b100011);
+            Check.due("14: all of them", x.needed(0, 0b100000, 1), 0b111);
+            Check.due("14: and the last line", x.needed(0, 0b100000, 0), 0b100000);
+            dueWay("12: by all together", x, 0, 0b100000, 1, 2, 3, 0, 0, 0, 9);
+        }
     }
 
     private static void greatestSearch() {

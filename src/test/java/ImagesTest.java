@@ -43,6 +43,7 @@ public final class ImagesTest {
         x.image(0);
         x.line(0, 1, 2);
         x.machine(0, 0, 9, 1);
+        x.machine(4, 20, 8, 2);
         x.tick(1);
         x.tick(0);
         x.tick(4);
@@ -56,6 +57,7 @@ public final class ImagesTest {
         Check.due("17: numbered from 0 on", x.line(2, 3, 4), 0);
         Check.due("17: numbered on", x.line(4, 3, 1), 1);
         Check.due("17: machine from 0 on", x.machine(2, 0, 5, 0), 0);
+        Check.due("17: another machine", x.machine(2, 7, 5, 0), 1);
         x.tick(1);
         x.tick(4);
         Check.due("17: the new line joins", x.bus(3, 0), 0b1100);
@@ -64,6 +66,7 @@ public final class ImagesTest {
         Check.due("17: the old line", x.of(0, 1), 1);
         Check.due("17: the old charge", x.of(0, 2), 2);
         Check.due("17: the old bus", x.at(0, 0), 0);
+        Check.due("17: the old crank", x.at(1, 1), 20);
         Check.due("17: the old power", x.at(0, 2), 9);
         Check.due("17: the old ramp", x.at(0, 3), 1);
         Check.due("17: the old island", x.bus(1, 0), 0b11);

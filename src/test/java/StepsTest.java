@@ -115,6 +115,8 @@ public final class StepsTest {
         for (int step : new int[] {-1, 10, 11, Integer.MIN_VALUE, Integer.MAX_VALUE}) {
             Check.due("9: tick(" + step + ")", x.tick(step), OUTSIDE);
         }
+        Check.due("9: no machine at all", new GridStarts().tick(1), UNKNOWN);
+        Check.due("9: no line at all", new GridStarts().tick(4), UNKNOWN);
         Check.due("9: no machine 2", x.tick(3), UNKNOWN);
         for (int step = 5; step <= 9; step++) {
             Check.due("9: no line " + (step - 4), x.tick(step), UNKNOWN);
