@@ -2,8 +2,13 @@ import java.util.Random;
 
 /** Long runs of chance calls (the same at every run of the test), each answer against the model's. */
 public final class RandomRunsTest {
-    private static final int RUNS = 400;
-    private static final int CALLS = 120;
+    /** Runs that are looked at behind each call: 64 calls, 4 questions behind each, 180 at the end. */
+    private static final int RUNS = 1500;
+    private static final int CALLS = 64;
+    private static final int QUESTIONS = 4;
+    /** Runs as long as an object is used, with no more looked at than the calls themselves. */
+    private static final int LONG_RUNS = 100;
+    private static final int MOST_CALLS = 512;
     private static final int[] ODD = {Integer.MIN_VALUE, -7, -2, -1, 10, 41, 64, 1 << 30, Integer.MAX_VALUE};
 
     private final Random chance;
@@ -22,14 +27,31 @@ public final class RandomRunsTest {
         for (int run = 0; run < RUNS && Check.allRight(); run++) {
             new RandomRunsTest(run).play(run);
         }
+        for (int run = RUNS; run < RUNS + LONG_RUNS && Check.allRight(); run++) {
+            new RandomRunsTest(run).playLong(run);
+        }
         Check.end();
     }
 
     private void play(int run) {
         for (int i = 0; i < CALLS && Check.allRight(); i++) {
             call();
-            lookAtAll();
+            for (int question = 0; question < QUESTIONS; question++) {
+                ask();
+            }
         }
+        lookAtAll();
+        tellIfWrong(run);
+    }
+
+    private void playLong(int run) {
+        for (int i = 0; i < MOST_CALLS && Check.allRight(); i++) {
+            call();
+        }
+        tellIfWrong(run);
+    }
+
+    private void tellIfWrong(int run) {
         if (!Check.allRight()) {
             System.out.println("in run " + run + ", behind:" + told);
         }
@@ -112,6 +134,18 @@ public final class RandomRunsTest {
             case "image" -> Check.due(call, x.image(a), model.image(a));
             case "restore" -> Check.due(call, x.restore(a), model.restore(a));
             default -> throw new IllegalArgumentException(call);
+        }
+    }
+
+    private void ask() {
+        int k = chance.nextInt(6);
+        int what = chance.nextInt(5);
+        switch (chance.nextInt(5)) {
+            case 0 -> Check.due("can", x.can(), model.can());
+            case 1 -> Check.due("count " + (k + what), x.count(k + what), model.count(k + what));
+            case 2 -> Check.due("of " + k + " " + what, x.of(k, what), model.of(k, what));
+            case 3 -> Check.due("at " + k + " " + what, x.at(k, what), model.at(k, what));
+            default -> Check.due("bus " + k + " " + what, x.bus(k, what), model.bus(k, what));
         }
     }
 
