@@ -25,6 +25,7 @@ public final class FaceTest {
         for (Class<?> inside : face.getDeclaredClasses()) {
             Check.isTrue(inside + " is static", Modifier.isStatic(inside.getModifiers()));
             Check.isTrue(inside + " is not public", !isSeenOutside(inside.getModifiers()));
+            methodsInside(inside);
         }
         Check.end();
     }
@@ -47,9 +48,8 @@ public final class FaceTest {
     private static void methods(Class<?> face) {
         Set<String> seen = new TreeSet<>();
         for (Method method : face.getDeclaredMethods()) {
-            boolean named = METHODS.stream().anyMatch(m -> m.startsWith(method.getName() + "/"));
             if (isHidden(method)) {
-                Check.isTrue(method + " bears no public name", !named);
+                Check.isTrue(method + " bears no public name", !bearsPublicName(method));
                 continue;
             }
             seen.add(method.getName() + "/" + method.getParameterCount());
@@ -60,6 +60,17 @@ public final class FaceTest {
             Check.isTrue(method + " throws nothing", method.getExceptionTypes().length == 0);
         }
         Check.isTrue("methods " + seen, seen.equals(METHODS));
+    }
+
+    private static boolean bearsPublicName(Method method) {
+        return METHODS.stream().anyMatch(m -> m.startsWith(method.getName() + "/"));
+    }
+
+    private static void methodsInside(Class<?> inside) {
+        for (Method method : inside.getDeclaredMethods()) {
+            Check.isTrue(method + " bears no public name", !bearsPublicName(method));
+            Check.isTrue(method + " takes at most seven", method.getParameterCount() <= 7);
+        }
     }
 
     private static void fields(Class<?> face) throws IllegalAccessException {

@@ -22,6 +22,8 @@ public final class GoalEdgesTest {
         neededOfOneOfTwo();
         neededBesideWhatIsThere();
         everOfAll();
+        askingChangesNothing();
+        everOfOneAlone();
         everOfWhatIs();
         everEachByItself();
         everByTheLastStep();
@@ -319,6 +321,39 @@ public final class GoalEdgesTest {
         Quiet.due(Scene.TOLD, "15: three buses", x -> x.ever(1), 0b000111);
         Quiet.due(Scene.EMPTY, "15: no machine", x -> x.ever(0), 0);
         Quiet.due(Scene.EMPTY, "15: no bus", x -> x.ever(1), 0);
+    }
+
+    /** Searches leave no trace, whether or not the GOAL can be reached. */
+    private static void askingChangesNothing() {
+        for (Scene scene : Scene.values()) {
+            GridStarts x = scene.make();
+            int machines = (1 << scene.machines) - 1;
+            for (int buses : new int[] {0, 1, 0b111, 63}) {
+                for (int i = -1; i <= 1; i++) {
+                    x.way(machines, buses, i);
+                }
+                x.needed(machines, buses, 0);
+                x.needed(machines, buses, 1);
+            }
+            x.ever(0);
+            x.ever(1);
+            Check.same(scene + ": asked", Look.all(x), scene.look());
+        }
+    }
+
+    /** A MACHINE and its BUS, and no other one, wherever they are. */
+    private static void everOfOneAlone() {
+        for (int bus = 0; bus <= 5; bus++) {
+            GridStarts x = new GridStarts();
+            x.machine((bus + 1) % 6, 1, 40, 0);
+            x.machine((bus + 5) % 6, 20, 40, 0);
+            x.machine(bus, 0, 0, 3);
+            Check.due("15: the machine at " + bus, x.ever(0), 0b100);
+            Check.due("15: bus " + bus, x.ever(1), 1 << bus);
+            Check.due("12: both", x.way(0b100, 1 << bus, -1), 4);
+            Check.due("12: not the next bus", x.way(0b100, 1 << (bus + 1) % 6, -1), NONE);
+            Check.due("12: not the machine there", x.way(0b101, 0, -1), NONE);
+        }
     }
 
     /** "by some STEPS from what is now, however many": none are enough for what is READY or LIVE. */

@@ -10,6 +10,7 @@ public final class ImageEdgesTest {
         imageStays();
         bothAreApart();
         changesBehindImage();
+        everyNumberIsKept();
         roomIsKept();
         fullIsKept();
         ticksAreKept();
@@ -135,6 +136,33 @@ public final class ImageEdgesTest {
         x.restore(0);
         Check.due("17: it runs, dark or not", x.at(0, 4), 3);
         Check.due("17: now", x.count(7), 1);
+    }
+
+    /** The first and the last LINE and MACHINE, told otherwise in between, number by number. */
+    private static void everyNumberIsKept() {
+        GridStarts x = new GridStarts();
+        x.image(0);
+        tellAll(x, 0);
+        x.image(1);
+        x.restore(0);
+        tellAll(x, 1);
+        GridStarts first = new GridStarts();
+        first.image(0);
+        tellAll(first, 0);
+        first.image(1);
+        Check.due("17: to what was told first", x.restore(1), 1);
+        Check.same("17: told first", Look.all(x), Look.all(first));
+    }
+
+    /** Six LINES and three MACHINES, each number of them another one with 0 and with 1; all MACHINES are READY. */
+    private static void tellAll(GridStarts x, int other) {
+        for (int line = 0; line < 6; line++) {
+            x.line((line + other) % 6, (line + other + 1) % 6, 1 + other);
+        }
+        for (int machine = 0; machine < 3; machine++) {
+            x.machine(2 * machine + other, (machine + other) % 2, 30 + other, 3 - other);
+        }
+        Check.isTrue("13: all", x.go(7, 63) > 0);
     }
 
     /** Numbers go on from what was kept. */
