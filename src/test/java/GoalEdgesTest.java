@@ -13,6 +13,7 @@ public final class GoalEdgesTest {
         firstOfWaysAsLong();
         startedLateIsWaitingFirst();
         mostTicks();
+        behindAllElse();
         goIsTheWay();
         goAddsToNow();
         goBehindFail();
@@ -21,6 +22,7 @@ public final class GoalEdgesTest {
         neededOfNone();
         neededOfOneOfTwo();
         neededBesideWhatIsThere();
+        neededOfOneNumber();
         everOfAll();
         askingChangesNothing();
         everOfOneAlone();
@@ -196,6 +198,23 @@ public final class GoalEdgesTest {
         Check.due("8: and can't be closed", x.can(), 1);
     }
 
+    /** The last LINE takes what all MACHINES give: all that can be done without it comes first, and is looked through. */
+    private static void behindAllElse() {
+        GridStarts x = new GridStarts();
+        for (int bus = 1; bus <= 4; bus++) {
+            x.line(0, bus, 0);
+        }
+        x.line(0, 5, 9);
+        x.line(0, 1, 0);
+        for (int machine = 0; machine < 3; machine++) {
+            x.machine(0, 0, 3, 3);
+        }
+        dueWay("three starts, four lines, and then the last", x, 7, 63, 1, 2, 3, 4, 5, 6, 7, 8);
+        Check.due("14: all lines but the two to bus 1", x.needed(7, 62, 0), 0b011110);
+        Check.due("13: all", x.go(7, 63), 8);
+        Check.due("7: nothing to spare", x.bus(5, 2), 100);
+    }
+
     /** "THE WAY to a GOAL is done, TICK by TICK": as if its STEPS were told one by one. */
     private static void goIsTheWay() {
         GridStarts gone = chain();
@@ -310,6 +329,21 @@ public final class GoalEdgesTest {
         Check.due("10: none is left to run", x.fail(1), 2);
         Check.due("14: all machines", x.needed(0, 0b100000, 1), 0b111);
         Check.due("14: all lines of the chain", x.needed(0, 0b100000, 0), 0b011111);
+    }
+
+    /** What RUNS says nothing of the LINE of the same number, nor what is CLOSED of the MACHINE. */
+    private static void neededOfOneNumber() {
+        GridStarts x = new GridStarts();
+        x.machine(0, 0, 9, 0);
+        x.machine(1, 1, 9, 0);
+        x.line(1, 2, 0);
+        x.line(0, 1, 0);
+        x.tick(1);
+        Check.due("14: line 0, though machine 0 runs", x.needed(0b10, 0b100, 0), 0b11);
+        Check.due("14: machine 1 alone", x.needed(0b10, 0b100, 1), 0b10);
+        x.tick(5);
+        Check.due("14: machine 1, though line 1 is closed", x.needed(0b10, 0b100, 1), 0b10);
+        Check.due("14: line 0 alone", x.needed(0b10, 0b100, 0), 0b01);
     }
 
     private static void everOfAll() {

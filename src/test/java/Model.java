@@ -20,7 +20,7 @@ final class Model {
     }
 
     /** left: -1 for a MACHINE that does not RUN. */
-    private record Now(List<Boolean> closed, List<Integer> left) {
+    record Now(List<Boolean> closed, List<Integer> left) {
         Now copy() {
             return new Now(new ArrayList<>(closed), new ArrayList<>(left));
         }
@@ -263,6 +263,10 @@ final class Model {
         };
     }
 
+    Now state() {
+        return state.copy();
+    }
+
     private Set<Set<Integer>> liveIslands() {
         Set<Set<Integer>> islands = new HashSet<>();
         for (int b = 0; b < BUSES; b++) {
@@ -294,7 +298,7 @@ final class Model {
         return island;
     }
 
-    private boolean live(Now s, int bus) {
+    boolean live(Now s, int bus) {
         Set<Integer> island = island(s, bus);
         for (int m = 0; m < machines.size(); m++) {
             if (s.left.get(m) >= 0 && island.contains(machines.get(m).bus)) {
@@ -324,7 +328,7 @@ final class Model {
         return step == 0 || (step < 4 ? step - 1 < machines.size() : step - 4 < lines.size());
     }
 
-    private boolean possible(Now s, int step) {
+    boolean possible(Now s, int step) {
         if (step == 0 || !told(step)) {
             return step == 0;
         }
@@ -342,7 +346,7 @@ final class Model {
         return spare(behind, l.one) >= 0;
     }
 
-    private Now after(Now s, int step) {
+    Now after(Now s, int step) {
         Now next = s.copy();
         if (step >= 4) {
             next.closed.set(step - 4, true);

@@ -24,6 +24,7 @@ public final class StepEdgesTest {
         failLeavesNoneLive();
         failLeavesOneThatRamps();
         failWithoutLines();
+        startedAnew();
         failOpensSix();
         failTwice();
         tripLeaves0();
@@ -337,6 +338,30 @@ public final class StepEdgesTest {
         Check.due("10: the other one runs", x.at(1, 4), 0);
         Check.due("10: one that is ready", x.fail(1), 0);
         Check.due("18: none runs", x.count(3), 0);
+    }
+
+    /** "it RUNS then, with as many TICKS LEFT as its RAMP": however many were LEFT when it stopped. */
+    private static void startedAnew() {
+        for (int ramp = 0; ramp <= 3; ramp++) {
+            for (int passed = 0; passed <= ramp; passed++) {
+                String what = "ramp " + ramp + ", stopped behind " + passed;
+                GridStarts x = new GridStarts();
+                x.machine(1, 0, 5, ramp);
+                x.tick(1);
+                for (int tick = 0; tick < passed; tick++) {
+                    x.tick(0);
+                }
+                x.image(0);
+                x.fail(0);
+                Check.due("12: " + what, x.way(1, 0, -1), 1 + ramp);
+                x.tick(1);
+                Check.due("6: " + what + " by fail", x.at(0, 4), ramp);
+                x.restore(0);
+                x.dark();
+                x.tick(1);
+                Check.due("6: " + what + " by dark", x.at(0, 4), ramp);
+            }
+        }
     }
 
     private static void failOpensSix() {
