@@ -30,7 +30,11 @@ public final class SentencesTest {
             }
         }
         Check.due("lines of tests", tests, quoted.size());
-        Check.same("a word of the document", wordsOf(String.join(" ", quoted)), wordsOf(sentences()));
+        if (Files.exists(DOCUMENT)) {
+            Check.same("a word of the document", wordsOf(String.join(" ", quoted)), wordsOf(sentences()));
+        } else {
+            System.out.println("the document is not at " + DOCUMENT + ": its sentences are not looked at");
+        }
         Check.end();
     }
 
