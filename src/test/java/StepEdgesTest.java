@@ -30,6 +30,7 @@ public final class StepEdgesTest {
         tripLeaves0();
         tripLeavesADeadSide();
         tripLeavesARing();
+        tripLeavesWhatRamps();
         tripOpensSix();
         tripTwice();
         Check.end();
@@ -422,6 +423,22 @@ public final class StepEdgesTest {
             Check.due("11: its charge is spared", x.bus(0, 2), 175);
             Check.due("11: no tick passed", x.count(7), 10);
             Check.due("8: it can be closed again", x.can(), 1 | 1 << 4 + line);
+        }
+    }
+
+    /** No TICK passes; what RUNS keeps its side LIVE, READY or not, but has no POWER for it yet. */
+    private static void tripLeavesWhatRamps() {
+        for (int charge = 0; charge <= 1; charge++) {
+            GridStarts x = lineAt(9, 0, 0);
+            x.machine(1, 0, 40, 3);
+            x.line(1, 2, charge);
+            ticks(x, 4, 2, 5);
+            Check.due("11: charge " + charge, x.trip(0), 1 + charge);
+            Check.due("11: live by what ramps", x.bus(2, 1), 1 - charge);
+            Check.due("11: it has as many left", x.at(1, 4), 2);
+            Check.due("11: now", x.count(7), 4);
+            x.tick(0);
+            Check.due("11: and goes on", x.at(1, 4), 1);
         }
     }
 
